@@ -277,12 +277,12 @@ public final class WoundTown {
         int kind = text.kinds[clause];
         for (int time = 0; time < text.times[clause]; time++) {
             tellOrderWords();
-            if (!rules.allows(text, clause, orderWords)) {
+            if (rules.value(text, text.tests[clause], orderWords) != 1) {
                 continue;
             }
             long first = rules.value(text, text.sums[clause], orderWords);
-            long second = kind == KEY ? rules.value(text, text.seconds[clause], orderWords) : 0;
-            if (kind != RUN && (first == BROKEN || second == BROKEN)) {
+            long second = rules.value(text, text.seconds[clause], orderWords);
+            if (first == BROKEN || second == BROKEN) {
                 return false;
             }
             int answer = BAD_NUMBER;
@@ -965,7 +965,7 @@ public final class WoundTown {
         static final int DIGITS = 2;
         static final int SIGN = 3;
 
-        private static final int BLANK = 32;
+        private static final char BLANK = ' ';
         /** Above every number that a TEXT may have: a longer row of digits stays here. */
         private static final int TOO_MUCH = 10000;
 
@@ -1040,30 +1040,21 @@ public final class WoundTown {
                 return NONE;
             }
             int index = 0;
-            int from = 0;
+            // How many signs of the word at hand are as the TOKEN's; NONE, once one is not.
+            int same = 0;
             for (int at = 0; at <= words.length(); at++) {
-                if (at < words.length() && words.charAt(at) != ' ') {
+                char sign = at < words.length() ? words.charAt(at) : BLANK;
+                if (sign != BLANK) {
+                    same = same != NONE && byteAt(start + same) == sign ? same + 1 : NONE;
                     continue;
                 }
-                if (isAs(words, from, at)) {
+                if (same == behind - start) {
                     return index;
                 }
                 index++;
-                from = at + 1;
+                same = 0;
             }
             return NONE;
-        }
-
-        private boolean isAs(String words, int from, int to) {
-            if (to - from != behind - start) {
-                return false;
-            }
-            for (int at = from; at < to && at < words.length(); at++) {
-                if (words.charAt(at) != byteAt(start + at - from)) {
-                    return false;
-                }
-            }
-            return true;
         }
 
         /** NONE, if the TOKEN is no NUMBER from least to most. */
@@ -1200,7 +1191,6 @@ public final class WoundTown {
         /** In the order of the values told for ORDERS; the last two have a number behind them. */
         private static final String ORDER_WORDS = "day turns life done ended little left";
         private static final int WORD_LITTLE = 5;
-        private static final int WORD_LEFT = 6;
 
         private static final int MOST_PARTS = 50;
         private static final int MOST_NUMBER = 1000;
@@ -1222,25 +1212,19 @@ public final class WoundTown {
             parts = 0;
             text.clear();
             tape.rewind();
-            boolean read = clauses();
-            fault = read ? NONE : tape.start;
-            return read;
-        }
-
-        private boolean clauses() {
+            fault = NONE;
             for (int clause = 0; clause < Text.CLAUSES; clause++) {
-                boolean read = ofOrders ? orderClause() : lawClause();
-                if (!read) {
-                    return false;
-                }
-                if (tape.kind == Tape.END) {
+                boolean read = orders ? orderClause() : lawClause();
+                if (read && tape.kind == Tape.END) {
                     return true;
                 }
-                if (!tape.isSign(';')) {
+                if (!read || !tape.isSign(';')) {
+                    fault = tape.start;
                     return false;
                 }
                 tape.next();
             }
+            fault = tape.start;
             return false;
         }
 
@@ -1346,11 +1330,38 @@ public final class WoundTown {
                 tape.next();
                 isTurned = !isTurned;
             }
-            boolean read = tape.isSign('(') ? bracketed(depth) : compared(depth);
-            if (read && isTurned) {
+            if (tape.isSign('(')) {
+                if (!bracketed(depth)) {
+                    return false;
+                }
+            } else {
+                if (!sum(depth)) {
+                    return false;
+                }
+                int step = comparison();
+                if (step == NONE) {
+                    return false;
+                }
+                tape.next();
+                if (!sum(depth)) {
+                    return false;
+                }
+                text.add(step, 0);
+            }
+            if (isTurned) {
                 text.add(Text.NOT, 0);
             }
-            return read;
+            return true;
+        }
+
+        private int comparison() {
+            if (tape.isSign('<')) {
+                return Text.LESS;
+            }
+            if (tape.isSign('>')) {
+                return Text.MORE;
+            }
+            return tape.isSign('=') ? Text.SAME : NONE;
         }
 
         private boolean bracketed(int depth) {
@@ -1362,28 +1373,6 @@ public final class WoundTown {
                 return false;
             }
             tape.next();
-            return true;
-        }
-
-        private boolean compared(int depth) {
-            if (!sum(depth)) {
-                return false;
-            }
-            int step;
-            if (tape.isSign('<')) {
-                step = Text.LESS;
-            } else if (tape.isSign('>')) {
-                step = Text.MORE;
-            } else if (tape.isSign('=')) {
-                step = Text.SAME;
-            } else {
-                return false;
-            }
-            tape.next();
-            if (!sum(depth)) {
-                return false;
-            }
-            text.add(step, 0);
             return true;
         }
 
@@ -1406,24 +1395,26 @@ public final class WoundTown {
             if (!part(depth)) {
                 return false;
             }
-            for (int more = 0; more < Tape.MOST; more++) {
-                int step;
-                if (tape.isSign('*')) {
-                    step = Text.TIMES;
-                } else if (tape.isSign('/')) {
-                    step = Text.BY;
-                } else if (tape.isSign('%')) {
-                    step = Text.REST;
-                } else {
-                    return true;
-                }
+            int step = timesOrBy();
+            for (int more = 0; more < Tape.MOST && step != NONE; more++) {
                 tape.next();
                 if (!part(depth)) {
                     return false;
                 }
                 text.add(step, 0);
+                step = timesOrBy();
             }
             return true;
+        }
+
+        private int timesOrBy() {
+            if (tape.isSign('*')) {
+                return Text.TIMES;
+            }
+            if (tape.isSign('/')) {
+                return Text.BY;
+            }
+            return tape.isSign('%') ? Text.REST : NONE;
         }
 
         private boolean part(int depth) {
@@ -1442,42 +1433,23 @@ public final class WoundTown {
                 return false;
             }
             parts++;
-            return tape.kind == Tape.DIGITS ? number() : word();
-        }
-
-        private boolean number() {
-            int number = tape.numberWithin(0, MOST_NUMBER);
-            if (number == NONE) {
-                return false;
-            }
-            text.add(Text.NUMBER, number);
-            tape.next();
-            return true;
-        }
-
-        private boolean word() {
-            int word = tape.wordIn(ofOrders ? ORDER_WORDS : LAW_WORDS);
-            if (word == NONE) {
+            int step = tape.kind == Tape.DIGITS ? Text.NUMBER : Text.WORD;
+            int value = step == Text.NUMBER ? tape.numberWithin(0, MOST_NUMBER)
+                    : tape.wordIn(ofOrders ? ORDER_WORDS : LAW_WORDS);
+            if (value == NONE) {
                 return false;
             }
             tape.next();
-            if (ofOrders && word == WORD_LITTLE) {
-                return wordWithNumber(ORDER_LITTLE, PEOPLE);
+            if (ofOrders && step == Text.WORD && value >= WORD_LITTLE) {
+                boolean isLittle = value == WORD_LITTLE;
+                int number = tape.numberWithin(0, isLittle ? PEOPLE - 1 : WORKS - 1);
+                if (number == NONE) {
+                    return false;
+                }
+                tape.next();
+                value = (isLittle ? ORDER_LITTLE : ORDER_LEFT) + number;
             }
-            if (ofOrders && word == WORD_LEFT) {
-                return wordWithNumber(ORDER_LEFT, WORKS);
-            }
-            text.add(Text.WORD, word);
-            return true;
-        }
-
-        private boolean wordWithNumber(int values, int many) {
-            int number = tape.numberWithin(0, many - 1);
-            if (number == NONE) {
-                return false;
-            }
-            text.add(Text.WORD, values + number);
-            tape.next();
+            text.add(step, value);
             return true;
         }
     }
@@ -1578,16 +1550,16 @@ public final class WoundTown {
             return (int) Math.max(0, Math.min(most, told));
         }
 
-        /** What the last clause of the kind that HOLDS tells ("bars" tells 0); BROKEN, if none does. */
+        /** What the last clause of the kind that HOLDS tells ("bars", which has no SUM, 1); BROKEN, if none does. */
         private long told(int kind) {
             if (law == null) {
                 return BROKEN;
             }
             for (int clause = law.clauses - 1; clause >= 0; clause--) {
-                if (law.kinds[clause] != kind || !allows(law, clause, words)) {
+                if (law.kinds[clause] != kind || value(law, law.tests[clause], words) != 1) {
                     continue;
                 }
-                long told = kind == BARS ? 0 : value(law, law.sums[clause], words);
+                long told = value(law, law.sums[clause], words);
                 if (told != BROKEN) {
                     return told;
                 }
@@ -1595,17 +1567,14 @@ public final class WoundTown {
             return BROKEN;
         }
 
-        /** Whether the clause has no "if", or that is so (and not BROKEN). */
-        boolean allows(Text text, int clause, int[] values) {
-            if (clause < 0 || clause >= text.clauses || clause >= text.tests.length) {
-                return false;
-            }
-            int test = text.tests[clause];
-            return test == NONE || value(text, test, values) == 1;
-        }
-
-        /** A SUM's value, or 1 and 0 for a TEST that is so or not; BROKEN. */
+        /**
+         * A SUM's value, or 1 and 0 for a TEST that is so or not; BROKEN. 1, where there is none: a clause without
+         * "if" is so.
+         */
         long value(Text text, int start, int[] values) {
+            if (start == NONE) {
+                return 1;
+            }
             int top = 0;
             for (int at = start; at >= 0 && at + 1 < text.code.length && top < DEPTH; at += 2) {
                 int step = text.code[at];
@@ -1640,17 +1609,13 @@ public final class WoundTown {
                 }
                 top--;
                 long left = stack[top - 1];
-                boolean isDivision = step == Text.BY || step == Text.REST;
-                if (isDivision && right == 0) {
-                    return BROKEN;
-                }
                 long result;
                 switch (step) {
                     case Text.PLUS: result = left + right; break;
                     case Text.MINUS: result = left - right; break;
                     case Text.TIMES: result = left * right; break;
-                    case Text.BY: result = right == 0 ? 0 : left / right; break;
-                    case Text.REST: result = right == 0 ? 0 : left % right; break;
+                    case Text.BY: result = right == 0 ? BROKEN : left / right; break;
+                    case Text.REST: result = right == 0 ? BROKEN : left % right; break;
                     case Text.LESS: result = left < right ? 1 : 0; break;
                     case Text.MORE: result = left > right ? 1 : 0; break;
                     default: result = left == right ? 1 : 0; break;
