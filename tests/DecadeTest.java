@@ -205,5 +205,9 @@ public final class DecadeTest {
         Due.due("the latest: drawn(5)", x.drawn(5), -1);
         x.work(0, 30, 23, 1, -1);
         Due.due("works that came later", x.drawn(5), -1);
+        for (int w = 2; w < 10; w++) x.work(0, 1, 23, 1, -1);
+        x.decade(seed(1, 8, 8, 0, 99), 1);
+        Due.due("the last work", x.drawn(13), 1);
+        Due.due("behind the last", x.drawn(14), -1);
     }
 }

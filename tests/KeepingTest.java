@@ -6,6 +6,7 @@ public final class KeepingTest {
         whatIsNotKept();
         laws();
         two();
+        others();
         counts();
         status();
         Due.finish();
@@ -138,6 +139,40 @@ public final class KeepingTest {
         x.mend(5);
         x.back(1);
         Due.due("kept anew", x.count(12), 1001);
+    }
+
+    /** Each image has people, works, sights of its own. */
+    private static void others() {
+        WoundTown x = new WoundTown();
+        x.image(0);
+        x.person(1, 2);
+        x.person(3, 4);
+        x.work(0, 10, 11, 12, -1);
+        x.work(1, 20, 21, 22, 0);
+        x.sight(0, 0, 10);
+        x.sight(1, 3, 20);
+        int fits = x.fits();
+        x.image(1);
+        x.back(0);
+        x.person(9, 7);
+        x.person(8, 6);
+        x.work(1, 50, 1, 52, -1);
+        x.work(0, 60, 2, 62, -1);
+        x.sight(1, 7, 33);
+        x.sight(0, 8, 34);
+        x.back(1);
+        int[] first = {0, 10, 11, 12, -1, 0};
+        int[] second = {1, 20, 21, 22, 0, 0};
+        for (int what = 0; what < 6; what++) {
+            Due.due("at(0, " + what + ")", x.at(0, what), first[what]);
+            Due.due("at(1, " + what + ")", x.at(1, what), second[what]);
+        }
+        Due.due("of(0, 0)", x.of(0, 0), 1);
+        Due.due("of(0, 1)", x.of(0, 1), 2);
+        Due.due("of(1, 0)", x.of(1, 0), 3);
+        Due.due("of(1, 1)", x.of(1, 1), 4);
+        Due.due("fits()", x.fits(), fits);
+        Due.due("some fit", fits > 0 ? 1 : 0, 1);
     }
 
     private static void counts() {

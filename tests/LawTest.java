@@ -15,6 +15,7 @@ public final class LawTest {
         words();
         runsAndSpeeds();
         bars();
+        manyTexts();
         Due.finish();
     }
 
@@ -249,6 +250,8 @@ public final class LawTest {
         testIs("not (1 = 1 or 1 = 1)", false);
         testIs("not not 1 = 1", true);
         testIs("not not not 1 = 1", false);
+        testIs("not (not 1 = 1)", true);
+        testIs("not (not (not 1 = 1))", false);
         testIs("not 1 = 1 and 1 = 2", false);
         testIs("1 + 1 = 4 / 2", true);
         testIs("((1 = 1) and ([1] = 1))", true);
@@ -303,7 +306,9 @@ public final class LawTest {
         for (int w = 0; w < words.length; w++) {
             x.back(0);
             Due.force(x, "wears " + words[w] + " + 1; snaps 50 if " + words[w] + " = " + (want[w] < 0 ? "0 - 1" : want[w]));
+            x.hour(8, 5, 1);
             Due.due(words[w] + " of wears", x.asks(8, 0), want[w] + 1);
+            x.hour(8, 5, 1);
             Due.due(words[w] + " of snaps", x.asks(8, 1), 50);
         }
     }
@@ -318,6 +323,8 @@ public final class LawTest {
         Due.force(x, "runs hour if hour < 3; runs 1000 if hour = 4; runs 0 - 5 if hour = 3");
         int[] power = {700, 700, 699, 697, 697, 0, 0};
         for (int h = 0; h < power.length; h++) Due.due("power at " + h, x.hour(7, h, 0), power[h]);
+        Due.force(x, "runs 1000");
+        Due.due("999: the nearest", x.hour(12, 1, 0), 201);
         Due.force(x, "runs 999 if person = 0 - 1 and oil = 0 - 1 and little = 0 - 1 and turns = 11 and life = 1000 "
                 + "and day = 5 and mood = 4 and power = 1000 + 100");
         Due.due("the words of runs", x.hour(11, 1, 0), 101);
@@ -335,6 +342,18 @@ public final class LawTest {
         Due.force(x, "runs 1000; speeds 50");
         Due.due("no power, no springs: 0 whatever the law", x.hour(10, 2, 1), 0);
         Due.due("no power, but springs", x.hour(10, 2, 2), 50);
+    }
+
+    /** One text leaves nothing to the next. */
+    private static void manyTexts() {
+        WoundTown x = new WoundTown();
+        for (int i = 0; i < 30; i++) {
+            Due.law(x, "bars if " + repeated("1=1or ", 24) + "1=1;runs " + repeated("[", 8));
+            Due.orders(x, "mend 1 if " + repeated("1=1and ", 23) + "1=1");
+        }
+        Due.due("life", x.count(12), 1030);
+        Due.force(x, "wears 7");
+        Due.due("asks(12, 0)", x.asks(12, 0), 7);
     }
 
     private static void bars() {

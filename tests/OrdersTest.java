@@ -98,6 +98,7 @@ public final class OrdersTest {
         WoundTown x = town();
         run(x, "mend 1 times 20", 20);
         Due.due("life", x.count(12), 1020);
+        run(x, "run times 1 if 1 = 2", 0);
         run(x, "mend 1 times 020 if done < 3", 3);
         Due.due("life", x.count(12), 1023);
         run(x, "mend done + 1 times 3", 3);
@@ -151,6 +152,8 @@ public final class OrdersTest {
         faultAt("mend ended 1", 11);
         faultAt("mend 1001", 5);
         faultAt("bars", 0);
+        faultAt("runz", 0);
+        faultAt("azrun", 0);
     }
 
     private static String repeated(String text, int times) {
@@ -226,6 +229,12 @@ public final class OrdersTest {
         }
         Due.due("life", x.count(12), 1004);
         Due.refused(x, "undo()", x.undo(), -3);
+        run(x, "key 0 by 1 times 4", 4);
+        run(x, "mend 1 times 16", 16);
+        run(x, "key 0 by 1 times 5;run", -3);
+        for (int i = 0; i < 16; i++) Due.answered(x, "undo()", x.undo(), 3);
+        Due.refused(x, "undo()", x.undo(), -3);
+        x.oil(0, 5);
         run(x, "wind 3;key 0 by 2;run;mend 7", 4);
         Due.answered(x, "undo()", x.undo(), 3);
         Due.answered(x, "undo()", x.undo(), 2);

@@ -146,6 +146,9 @@ public final class PaperTest {
         Due.due("day(4, 2)", x.day(4, 2), 12);
         Due.due("day(1, 2)", x.day(1, 2), 9);
         Due.due("day(0, 2)", x.day(0, 2), 0);
+        Due.force(x, "runs 100;speeds 1");
+        Due.due("one minute is begun", x.day(1, 2), 9);
+        x.force(-1);
         x.wind(1);
         x.run();
         Due.due("what was begun before is begun", x.day(0, 2), 9);
@@ -165,6 +168,9 @@ public final class PaperTest {
         Due.due("least(4)", x.least(4), 2);
         Due.due("least(7)", x.least(7), 6);
         Due.due("least(8): not by 12", x.least(8), -1);
+        Due.force(x, "speeds turns * 5");
+        Due.due("least(1): by 12 alone", x.least(1), 12);
+        x.force(-1);
         Due.due("least(16): no such", x.least(16), -1);
         Due.due("least(20): no such", x.least(20), -1);
         Due.due("least(-1)", x.least(-1), -1);
@@ -240,6 +246,12 @@ public final class PaperTest {
         y.work(0, 10, 2, 9, 2);
         // By numbers work 1 ends at 1, work 2 at 2, whatever the row: work 3 can't end before 3.
         row(y, 0, 1, 2, 0, 1, 3);
+        WoundTown z = new WoundTown();
+        z.person(0, 0);
+        Due.force(z, "runs 0;speeds 1");
+        for (int w = 0; w < 5; w++) z.work(0, 2, 2 * ((w * 2 + 3) % 5) + 1, 1 + w, -1);
+        // Due in the order 1, 4, 2, 0, 3: only so are all in time.
+        row(z, 0, 1, 15, 1, 4, 2, 0, 3);
     }
 
     private static void orderlyMany() {

@@ -474,11 +474,7 @@ public final class WoundTown {
         if (works < 0 || works >= 1 << town.works) {
             return NONE;
         }
-        for (int work = 0; work < town.works; work++) {
-            if ((works >> work & 1) == 1 && town.isDone(work)) {
-                return NONE;
-            }
-        }
+        // One that is DONE all ENDS by no turns.
         for (int turns = 0; turns <= MOST_TURNS; turns++) {
             day.pass(town, town.going, turns);
             if (day.areInTime(works)) {
