@@ -211,6 +211,7 @@ public final class DoingsTest {
         x.wind(1);
         x.run();
         x.undo();
+        Due.due("what was done on the first of two days", x.at(0, 5), 15 + 9 + 22 * 5);
         x.undo();
         x.undo();
         Due.due("what the first of two days did stands undone", x.at(0, 5), 0);
