@@ -967,10 +967,11 @@ public final class WoundTown {
 
         private final int[] bytes = new int[MOST];
         int length;
-        /** The TOKEN: its kind, its place, the place behind it. */
+        /** The TOKEN: its kind, its place, the place behind it; the byte of one of kind SIGN. */
         int kind;
         int start;
         private int behind;
+        private int sign;
 
         Tape() {
         }
@@ -1004,26 +1005,30 @@ public final class WoundTown {
                 behind++;
             }
             start = behind;
+            sign = NONE;
             if (start >= length) {
                 kind = END;
                 return;
             }
             kind = kindOf(byteAt(start));
+            if (kind == SIGN) {
+                sign = byteAt(start);
+            }
             behind++;
             while (kind != SIGN && behind < length && kindOf(byteAt(behind)) == kind) {
                 behind++;
             }
         }
 
-        private static int kindOf(int sign) {
-            if (sign >= 'a' && sign <= 'z') {
+        private static int kindOf(int letter) {
+            if (letter >= 'a' && letter <= 'z') {
                 return LETTERS;
             }
-            return sign >= '0' && sign <= '9' ? DIGITS : SIGN;
+            return letter >= '0' && letter <= '9' ? DIGITS : SIGN;
         }
 
-        boolean isSign(char sign) {
-            return kind == SIGN && byteAt(start) == sign;
+        boolean isSign(char which) {
+            return sign == which;
         }
 
         boolean isWord(String word) {
@@ -1036,12 +1041,12 @@ public final class WoundTown {
                 return NONE;
             }
             int index = 0;
-            // How many signs of the word at hand are as the TOKEN's; NONE, once one is not.
+            // How many letters of the word at hand are as the TOKEN's; NONE, once one is not.
             int same = 0;
             for (int at = 0; at <= words.length(); at++) {
-                char sign = at < words.length() ? words.charAt(at) : BLANK;
-                if (sign != BLANK) {
-                    same = same != NONE && byteAt(start + same) == sign ? same + 1 : NONE;
+                char letter = at < words.length() ? words.charAt(at) : BLANK;
+                if (letter != BLANK) {
+                    same = same != NONE && byteAt(start + same) == letter ? same + 1 : NONE;
                     continue;
                 }
                 if (same == behind - start) {
