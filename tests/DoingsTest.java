@@ -7,6 +7,7 @@ public final class DoingsTest {
         key();
         run();
         runByHours();
+        runWithoutPower();
         lastDay();
         mend();
         undo();
@@ -141,6 +142,27 @@ public final class DoingsTest {
         for (int w = 0; w < 4; w++) Due.due("done " + w, x.at(w, 5), x.at(w, 1));
         x.work(1, 40, 23, 1, 0);
         Due.due("what was done on a day before is ahead", x.ends(1, 4, 0), 0);
+    }
+
+    /** Who goes as a law tells goes without POWER, too, on paper and when the day is run. */
+    private static void runWithoutPower() {
+        WoundTown x = new WoundTown();
+        x.person(0, 0);
+        x.work(0, 30, 9, 4, -1);
+        x.work(0, 600, 23, 5, 0);
+        Due.force(x, "runs 0; speeds 10");
+        Due.due("least(1)", x.least(1), 0);
+        Due.due("ends(0, 0, 0)", x.ends(0, 0, 0), 2);
+        Due.due("orderly(0, 0, -1)", x.orderly(0, 0, -1), 4);
+        Due.due("little(0, 0)", x.little(0, 0), 0);
+        Due.due("day(0, 1)", x.day(0, 1), 4);
+        x.sight(1, 3, 10);
+        Due.due("fits()", x.fits(), 8191);
+        Due.due("decade(5, 1)", x.decade(5, 1), 1);
+        Due.due("drawn(5)", x.drawn(5), 210);
+        x.wind(0);
+        Due.answered(x, "run()", x.run(), 1);
+        Due.due("done", x.at(1, 5), 210);
     }
 
     private static void lastDay() {

@@ -340,8 +340,29 @@ public final class LawTest {
         Due.due("at 4", x.hour(10, 4, 1), 10 + 10 + 5 + 4);
         Due.due("at 5: as without", x.hour(10, 5, 2), 60);
         Due.force(x, "runs 1000; speeds 50");
-        Due.due("no power, no springs: 0 whatever the law", x.hour(10, 2, 1), 0);
-        Due.due("no power, but springs", x.hour(10, 2, 2), 50);
+        Due.due("no power, no springs: as told", x.hour(10, 2, 1), 50);
+        Due.due("no power, but springs: as told", x.hour(10, 2, 2), 50);
+        speedsWithoutPower();
+    }
+
+    /** What a "speeds" that HOLDS tells is so without POWER and LITTLE, too; 0 is said of what is so without one. */
+    private static void speedsWithoutPower() {
+        WoundTown x = new WoundTown();
+        x.person(3, 0);
+        Due.force(x, "runs 1000; speeds power / 20 + oil; speeds 61 if hour = 2; speeds 0 - 1 if hour = 3; "
+                + "speeds 1 / power if hour = 4; speeds 7 / power if hour = 5 and oil > 9");
+        Due.due("with power", x.hour(4, 0, 1), 23);
+        Due.due("without, as told", x.hour(4, 1, 1), 3);
+        Due.due("60 at most", x.hour(4, 2, 1), 60);
+        Due.due("0 at least", x.hour(4, 3, 1), 0);
+        Due.due("the one before one that is broken", x.hour(4, 4, 1), 3);
+        Due.due("by 0 turns", x.hour(0, 0, 1), 3);
+        Due.force(x, "speeds 40 if power > 0; speeds 40 / power");
+        Due.due("with power", x.hour(1, 1, 1), 1);
+        Due.due("none holds: 0", x.hour(1, 2, 1), 0);
+        Due.due("none holds, by 0 turns: 0", x.hour(0, 0, 1), 0);
+        x.key(0, 2);
+        Due.due("none holds: by springs", x.hour(1, 2, 1), 10);
     }
 
     /** One text leaves nothing to the next. */

@@ -109,11 +109,17 @@ public final class PaperTest {
         Due.force(x, "runs 0;speeds 0;speeds 1 if hour = 3");
         Due.due("from the last speed on", x.day(1, 0), 4);
         Due.force(x, "runs 50;speeds 60");
-        Due.due("without power it stands by every law", x.day(1, 0), 2);
+        Due.due("as told, without power, too", x.day(1, 0), 24);
+        Due.force(x, "runs 50;speeds 60 if power > 0");
+        Due.due("without power none holds", x.day(1, 0), 2);
         x.force(-1);
         x.person(0, 0);
         x.key(1, 1);
         Due.due("one that goes is enough", x.day(0, 0), 24);
+        WoundTown y = new WoundTown();
+        y.person(0, 0);
+        Due.force(y, "speeds 60;speeds 0 if hour > 6");
+        Due.due("as told, by no turns, too", y.day(0, 0), 7);
     }
 
     private static void worth() {
@@ -263,7 +269,7 @@ public final class PaperTest {
         x.work(0, 10, 23, 1, -1);
         Due.due("seven: the worth", x.orderly(0, 1, -1), -1);
         Due.due("seven: the first", x.orderly(0, 1, 0), -1);
-        Due.force(x, "runs 1000;speeds 10");
+        Due.force(x, "runs 1000;speeds 10 if power > 0");
         x.wind(1);
         x.run();
         Due.due("six are not done", x.orderly(0, 1, 0), 5);

@@ -624,7 +624,6 @@ final class Model {
                     Person who = s.people.get(p);
                     Long t = told(s, "speeds", words(s, turns, power[h], h, p, who.oil, who.little));
                     speed[h][p] = near(t == null ? power[h] / 10 + who.little * 5 : t, 60);
-                    if (power[h] == 0 && who.little == 0) speed[h][p] = 0;
                     for (int i : order) {
                         Work w = s.works.get(i);
                         if (w.person != p || morning[i] == w.minutes) continue;

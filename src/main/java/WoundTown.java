@@ -1517,10 +1517,6 @@ public final class WoundTown {
         }
 
         int speeds(int hour, int power, int person, int oil, int little) {
-            // Said of every town, not only of one without a law: without power and springs nobody goes.
-            if (power == 0 && little == 0) {
-                return 0;
-            }
             tellHour(hour, power);
             tellPerson(person, oil, little);
             long told = told(SPEEDS);
