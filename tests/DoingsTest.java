@@ -150,7 +150,7 @@ public final class DoingsTest {
         x.person(0, 0);
         x.work(0, 30, 9, 4, -1);
         x.work(0, 600, 23, 5, 0);
-        Due.force(x, "runs 0; speeds 10");
+        Due.force(x, "runs 1000; speeds 10");
         Due.due("least(1)", x.least(1), 0);
         Due.due("ends(0, 0, 0)", x.ends(0, 0, 0), 2);
         Due.due("orderly(0, 0, -1)", x.orderly(0, 0, -1), 4);
