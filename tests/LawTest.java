@@ -368,11 +368,11 @@ public final class LawTest {
     /** One text leaves nothing to the next. */
     private static void manyTexts() {
         WoundTown x = new WoundTown();
-        for (int i = 0; i < 30; i++) {
+        for (int i = 0; i < 15; i++) {
             Due.law(x, "bars if " + repeated("1=1or ", 24) + "1=1;runs " + repeated("[", 8));
             Due.orders(x, "mend 1 if " + repeated("1=1and ", 23) + "1=1");
         }
-        Due.due("life", x.count(12), 1030);
+        Due.due("life", x.count(12), 1015);
         Due.force(x, "wears 7");
         Due.due("asks(12, 0)", x.asks(12, 0), 7);
     }

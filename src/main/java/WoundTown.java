@@ -48,7 +48,7 @@ public final class WoundTown {
     private static final int TERM_MOOD = 2;
 
     /** No SUM can come to this: they end at a thousand millions either way. */
-    private static final long BROKEN = Long.MIN_VALUE;
+    private static final long BROKEN = -9000000000L;
 
     private final Town town = new Town();
     private final Town[] images = new Town[IMAGES];
@@ -1912,6 +1912,8 @@ public final class WoundTown {
     private static final class Places {
         /** More than any way that there is. */
         private static final int FAR = 1000000;
+        /** More than any round by ways that are not there. */
+        private static final int FARTHEST = 100 * FAR;
 
         private final int[] ways = new int[PLACES * PLACES];
         /** By a set of PLACES and one more: the least minutes from that one by all of the set to PLACE 0. */
@@ -1974,7 +1976,7 @@ public final class WoundTown {
         }
 
         private int leastOf(int set, int from) {
-            int best = Integer.MAX_VALUE;
+            int best = FARTHEST;
             for (int next = 0; next < PLACES; next++) {
                 if ((set >> next & 1) == 1) {
                     best = Math.min(best, by(set, from, next));
