@@ -27,6 +27,8 @@ public final class BoundsOfLawsTest {
         snapsWithin();
         barred();
         turnsIfNotWound();
+        wordsNotAsked();
+        wordsAtTheirBounds();
         lawInForce();
         asksOfTurns();
         twentyTimes();
@@ -385,6 +387,65 @@ public final class BoundsOfLawsTest {
         Due.refused(x, "not wound any more", x.key(0, 1), -3);
         x.wind(12);
         Due.answered(x, "wound by 12", x.key(0, 1), 1);
+    }
+
+    /** Whatever a PERSON in an HOUR was asked before. */
+    private static WoundTown asked(String law) {
+        WoundTown x = new WoundTown();
+        x.person(3, 0);
+        x.key(0, 4);
+        Due.force(x, law);
+        x.hour(12, 5, 1);
+        return x;
+    }
+
+    // "runs" .. (person, oil, little -1), .. "bars" .. (power, hour -1; ..), "wears", "snaps" .. (power, hour, person,
+    // oil, little -1)
+    private static void wordsNotAsked() {
+        for (String word : new String[] {"person", "oil", "little"}) {
+            Due.due(word + " of runs", asked("runs 7 if " + word + " = 0 - 1").hour(12, 1, 0), 1193);
+            Due.due(word + " of speeds", asked("speeds 0; speeds 7 if " + word + " > 0 - 1").hour(12, 1, 1), 7);
+            Due.due(word + " of bars", asked("bars if " + word + " > 0 - 1").key(0, 1), -3);
+        }
+        for (String word : new String[] {"power", "hour"}) {
+            Due.due(word + " of runs", asked("runs 7 if " + word + " > 0 - 1").hour(12, 1, 0), 1193);
+            Due.due(word + " of speeds", asked("speeds 0; speeds 7 if " + word + " > 0 - 1").hour(12, 1, 1), 7);
+            Due.due(word + " of bars", asked("bars if " + word + " = 0 - 1").key(0, 1), -3);
+        }
+        for (String word : new String[] {"power", "hour", "person", "oil", "little"}) {
+            Due.due(word + " of wears", asked("wears 7 if " + word + " = 0 - 1").asks(12, 0), 7);
+            Due.due(word + " of snaps", asked("snaps 7 if " + word + " = 0 - 1").asks(12, 1), 7);
+        }
+    }
+
+    // "turns, life, day, mood always"; each word from its least to its most
+    private static void wordsAtTheirBounds() {
+        for (int most = 0; most < 2; most++) {
+            WoundTown x = new WoundTown();
+            for (int p = 0; p < 6; p++) x.person(most * 9, 0);
+            Due.force(x, "wears 999");
+            if (most == 0) {
+                x.wind(0);
+                x.run();
+                x.wind(0);
+            } else {
+                x.mend(9999);
+                x.key(5, 9);
+            }
+            x.terms(0, most * 999);
+            x.terms(2, most * 9);
+            int turns = most * 12;
+            String always = "turns = " + turns + " and day = " + most * 999 + " and mood = " + most * 9
+                    + " and life = " + (most == 0 ? "0" : "1000 * 10 - 1");
+            Due.force(x, "wears 7 if " + always + "; snaps 8 if " + always);
+            Due.due("wears at " + most, x.asks(turns, 0), 7);
+            Due.due("snaps at " + most, x.asks(turns, 1), 8);
+            Due.force(x, "runs 9 if power = turns * 100 and " + always + "; speeds 10 if person = " + most * 5
+                    + " and oil = " + most * 9 + " and little = " + most * 9 + " and hour = " + most * 23
+                    + " and " + always);
+            Due.due("runs at " + most, x.hour(turns, 1, 0), most == 0 ? 0 : 1191);
+            Due.due("speeds at " + most, x.hour(turns, most * 23, 1 + most * 5), 10);
+        }
     }
 
     // "A LAW is in FORCE (NONE: none): which was. -2."; "NONE at first: no CLAUSE"

@@ -346,6 +346,11 @@ public final class BoundsOfPaperTest {
         x.work(0, 10, 2, 9, 0);
         x.work(0, 30, 23, 1, -1);
         row(x, "0 ends at 1: 1 can begin at 2", 10, 1, 2);
+        WoundTown tight = town(2);
+        Due.force(tight, "speeds 10");
+        tight.work(1, 20, 23, 1, -1);
+        tight.work(0, 10, 1, 9, 0);
+        row(tight, "nor can it END at 1", 0, 1);
         Due.force(x, "speeds 10 if person = 0; speeds 0 if person = 1");
         row(x, "0 does not end", 1, 1, 2);
         WoundTown y = town(2);
