@@ -605,7 +605,7 @@ public final class WoundTown {
         if (!isWithin(n, 0, MOST_TURNS)) {
             return NONE;
         }
-        // Who is left with a multiple of four turns to go can be answered up to the next one each time.
+        // Who begins with a multiple of four to go loses: the other one winds what is left of each four.
         return (MOST_TURNS - n) % (MOST_GAME_TURNS + 1);
     }
 
@@ -847,7 +847,7 @@ public final class WoundTown {
 
         int worksLeft(int person) {
             int left = 0;
-            for (int work = 0; work < works; work++) {
+            for (int work = 0; work < works && work < WORKS; work++) {
                 if (owner[work] == person && !isDone(work)) {
                     left++;
                 }
@@ -1805,7 +1805,7 @@ public final class WoundTown {
             if (town.worksLeft(person) > MOST) {
                 return false;
             }
-            for (int work = 0; work < town.works; work++) {
+            for (int work = 0; work < town.works && work < WORKS; work++) {
                 if (town.owner[work] == person && !town.isDone(work) && size < MOST) {
                     row[size] = work;
                     size++;
